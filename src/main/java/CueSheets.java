@@ -832,8 +832,11 @@ public final class CueSheets {
         }
 
         int playTime(int number, int strainCount, int pace) {
-            int whole = openings.at(number) + strainCount * strains.at(number) + closes.at(number);
-            return pace <= 0 ? 0 : whole * 100 / pace;
+            return timeAtPace(openings.at(number) + strainCount * strains.at(number) + closes.at(number), pace);
+        }
+
+        static int timeAtPace(int written, int pace) {
+            return pace <= 0 ? 0 : written * 100 / pace;
         }
 
         boolean isBad(int drift) {
@@ -956,16 +959,19 @@ public final class CueSheets {
 
         /** Goes through the cues in the order in which ties are decided, so that only a smaller drift replaces one. */
         void search(State state, int piece, int room) {
+            int strain = state.strains.at(piece);
+            int unrepeated = state.openings.at(piece) + state.closes.at(piece);
             size = Integer.MAX_VALUE;
             for (int off = 0; off <= state.leeway && size > 0; off++) {
-                tryPaces(state, piece, room, off);
+                tryPaces(unrepeated, strain, room, off);
             }
         }
 
-        private void tryPaces(State state, int piece, int room, int off) {
+        private void tryPaces(int unrepeated, int strain, int room, int off) {
             for (int n = 1; n <= MAX_STRAINS; n++) {
-                consider(n, USUAL_PACE - off, state.playTime(piece, n, USUAL_PACE - off) - room);
-                int shorterDrift = state.playTime(piece, n, USUAL_PACE + off) - room;
+                int written = unrepeated + n * strain;
+                consider(n, USUAL_PACE - off, State.timeAtPace(written, USUAL_PACE - off) - room);
+                int shorterDrift = State.timeAtPace(written, USUAL_PACE + off) - room;
                 consider(n, USUAL_PACE + off, shorterDrift);
                 // More strains would end later still, at both paces.
                 if (shorterDrift >= 0) {

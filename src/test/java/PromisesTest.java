@@ -307,7 +307,7 @@ public final class PromisesTest {
         promise = 12;
         String[] good = {"", "1", "9", "90", "99", "900", "899", "1,", "5:", "5:0", "5:7x", "5:7x9", "5:7x1@", "5:0x1@8",
             "5:0x1@80", "5:0x1@99", "5:0x1@1", "5:0x1@10", "5:0x1@100", "5:0x1@119", "5:0x1@12", "5:0x1@120",
-            "5:0x1@120,900:7x9,1", "1,1,1,1,1,1,1,1,1,1,1,1,1,1,1,1,1,1,1,1,1,1,1,1,1,1,1,1,1,1,"};
+            "5:0x1@120,900:7x9,1", "5:0x1@80,1", "5:0x1@99,1", "5:0x1@100,1", "1,1,1,1,1,1,1,1,1,1,1,1,1,1,1,1,1,1,1,1,1,1,1,1,1,1,1,1,1,1,"};
         for (String text : good) {
             due(text, () -> error(text), text.length());
         }
@@ -334,6 +334,13 @@ public final class PromisesTest {
         due("pace", () -> x.scene(0, 3, 7), 95);
         due("no cue", () -> x.scene(0, 4, 5), NONE);
         due("buffer", () -> x.clearBuffer(), 0);
+        for (int pace = 80; pace <= 120; pace++) {
+            int due = pace;
+            type(x, "2:1x9@" + pace);
+            due("pace " + pace, () -> x.load(2), 1);
+            due("pace " + pace, () -> x.scene(2, 0, 7), due);
+            x.removeScene(2, 0);
+        }
         for (String text : new String[] {"", "1,", "1:", "1:0", "1:0x", "1:0x1@", "1:0x1@8", "1:0x1@10", "0", "1a"}) {
             type(x, text);
             refused(x, "incomplete " + text, () -> x.load(1), ARGUMENT);
