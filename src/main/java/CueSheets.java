@@ -22,6 +22,7 @@ public final class CueSheets {
     private static final int MIN_PACE = 80;
     private static final int USUAL_PACE = 100;
     private static final int MAX_PACE = 120;
+    private static final int ABOVE_ALL_DRIFTS = 1000000000;
     private static final int MAX_TOLERANCE = 600;
     private static final int FIRST_TOLERANCE = 20;
     private static final int MAX_LEEWAY = 20;
@@ -535,7 +536,7 @@ public final class CueSheets {
         return mix(hash, doubleBits(measuredMeanSpeed()));
     }
 
-    /** The bits of a share: 0, or positive and far from the ends. LANGUAGE.md lists no Float.floatToIntBits. */
+    /** The bits of a share: 0, or positive and below 2 to the 24th. LANGUAGE.md lists no Float.floatToIntBits. */
     private static long floatBits(float value) {
         if (!(value > 0.0f)) {
             return 0;
@@ -546,14 +547,10 @@ public final class CueSheets {
             scaled = scaled * 2.0f;
             exponent--;
         }
-        for (int i = 0; i < 300 && scaled >= 16777216.0f; i++) {
-            scaled = scaled / 2.0f;
-            exponent++;
-        }
         return (exponent << 23) + ((long) scaled - (1L << 23));
     }
 
-    /** The bits of a speed: 0, or positive and far from the ends. LANGUAGE.md lists no Double.doubleToLongBits. */
+    /** The bits of a speed: 0, or positive and below 2 to the 53rd. LANGUAGE.md lists no Double.doubleToLongBits. */
     private static long doubleBits(double value) {
         if (!(value > 0.0)) {
             return 0;
@@ -563,10 +560,6 @@ public final class CueSheets {
         for (int i = 0; i < 2200 && scaled < 4503599627370496.0; i++) {
             scaled = scaled * 2.0;
             exponent--;
-        }
-        for (int i = 0; i < 2200 && scaled >= 9007199254740992.0; i++) {
-            scaled = scaled / 2.0;
-            exponent++;
         }
         return (exponent << 52) + ((long) scaled - (1L << 52));
     }
@@ -961,7 +954,7 @@ public final class CueSheets {
         void search(State state, int piece, int room) {
             int strain = state.strains.at(piece);
             int unrepeated = state.openings.at(piece) + state.closes.at(piece);
-            size = Integer.MAX_VALUE;
+            size = ABOVE_ALL_DRIFTS;
             for (int off = 0; off <= state.leeway && size > 0; off++) {
                 tryPaces(unrepeated, strain, room, off);
             }

@@ -769,58 +769,18 @@ public final class PromisesTest {
         refused(x, "reel -1", () -> (long) x.meanSpeed(-1), INDEX);
     }
 
-    static long hash;
-
-    static void add(long value) {
-        hash = 31 * hash + value;
-    }
-
-    static long digestOf(CueSheets x, String buffer) {
-        hash = 2237;
-        for (int w = 0; w < 8; w++) {
-            add(x.count(w));
-        }
-        for (int p = 0; p < x.count(1); p++) {
-            for (int w = 0; w < 4; w++) {
-                add(x.piece(p, w));
-            }
-        }
-        for (int r = 0; r < 3; r++) {
-            for (int w = 0; w < 11; w++) {
-                add(x.reel(r, w));
-            }
-            for (int s = 0; s < x.reel(r, 0); s++) {
-                for (int w = 0; w < 12; w++) {
-                    add(x.scene(r, s, w));
-                }
-                add(x.bestPiece(r, s));
-            }
-            for (int f = 0; f <= 900; f += 100) {
-                add(x.speedAt(r, f));
-            }
-            add(x.bestSpeed(r));
-            add(Float.floatToIntBits(x.offShare(r)));
-            add(Double.doubleToLongBits(x.meanSpeed(r)));
-        }
-        add(buffer.length());
-        for (int i = 0; i < buffer.length(); i++) {
-            add(buffer.charAt(i));
-        }
-        return hash;
-    }
-
     static void digest() {
         promise = 26;
         CueSheets x = new CueSheets();
-        long empty = digestOf(x, "");
+        long empty = Digests.of(x, "");
         due("new object", () -> x.digest(), empty);
         type(x, "9~!");
-        long text = digestOf(x, "9~!");
+        long text = Digests.of(x, "9~!");
         due("with a buffer", () -> x.digest(), text);
         x.clearBuffer();
         x.addScene(0, 100);
         x.addScene(2, 77);
-        long scenes = digestOf(x, "");
+        long scenes = Digests.of(x, "");
         due("with scenes, no pieces", () -> x.digest(), scenes);
         x.addPiece(50, 200, 30);
         x.addPiece(3, 71, 1);
@@ -831,7 +791,7 @@ public final class PromisesTest {
         x.splice(0, 30, 13);
         x.splice(2, 76, 13);
         type(x, "12:0x1");
-        long full = digestOf(x, "12:0x1");
+        long full = Digests.of(x, "12:0x1");
         due("with all", () -> x.digest(), full);
         due("nothing is changed", () -> x.digest(), full);
         due("not undoable", () -> x.count(7), 6);
