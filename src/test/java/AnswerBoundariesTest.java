@@ -1,4 +1,4 @@
-/** The boundary cases that promises 19 and 22 to 26 name, those of all reels, and the order of the exceptions. */
+/** The boundary cases that promises 19 and 22 to 26 name, those of all reels, the order of exceptions, and the 512th call. */
 public final class AnswerBoundariesTest {
     static final Sentences S = new Sentences();
     static final int[] FOOT_TIMES = {16, 14, 13, 12, 11, 10, 10, 9, 8, 8, 8, 7, 7, 6, 6, 6, 6, 5, 5, 5, 5};
@@ -175,6 +175,17 @@ public final class AnswerBoundariesTest {
         S.holds("26: not undoable", "digest(); count(7) = 0; addScene(0, 1); digest(); count(7) = 1");
     }
 
+    /** The last calls of a run of 512 stand behind all others, with the room for saved states gone round again and again. */
+    static void lastCalls() {
+        S.holds("what it is: 512 calls, changes", "500 * crank(0, 5, 20) = 2; 3 * append(49); 5 * addScene(0, 7); undo() = 5;"
+                + "reel(0, 0) = 4; clearBuffer() = 3; undo() = 4");
+        S.holds("what it is: 512 calls, questions", "addScene(0, 10); addPiece(0, 95, 0); setCue(0, 0, 0, 1, 100) = -5;"
+                + "507 * digest(); bestCue(0, 0, 0) = 1095; digest() = "
+                + Sentences.digestOf("addScene(0, 10); addPiece(0, 95, 0); setCue(0, 0, 0, 1, 100)"));
+        S.holds("what it is: 512 calls, refused ones", "255 * undo() ! state; 255 * addScene(3, 5) ! index;"
+                + "addScene(0, 5) = 0; undo() = 0");
+    }
+
     /** The hash of the list that the promise tells, from the answers of the other calls. */
     static void digestIs(String sentence, String before) {
         S.holds(sentence, before, "digest() = " + Sentences.digestOf(before));
@@ -188,6 +199,7 @@ public final class AnswerBoundariesTest {
         bestSpeed();
         shares();
         digest();
+        lastCalls();
         S.end();
     }
 }
